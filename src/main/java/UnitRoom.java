@@ -122,12 +122,13 @@ public final class UnitRoom {
     }
 
     public int card() {
-        if (!reader.hasRoom()) {
-            return NONE;
+        boolean accepted = reader.hasRoom();
+        if (accepted) {
+            reader.accept(input);
         }
-        reader.accept(input);
+        // The document does not say "changing nothing" here: a refused card empties the tape too.
         input.cut(0);
-        return reader.tell();
+        return accepted ? reader.tell() : NONE;
     }
 
     public int unit(int u) {

@@ -12,6 +12,7 @@ public final class InputTest {
         cardEmptiesTheTape();
         cardsComeInTheirOrder();
         hundredCardsAreAll();
+        refusedCardEmptiesTheTape();
         readCardsMakeRoom();
         Check.finish();
     }
@@ -127,7 +128,32 @@ public final class InputTest {
         room.feed(ABCD, ABCD, ABCD, ABCD, ABCD);
         Check.due("card 101", room.card(), UnitRoom.NONE);
         Check.due("unit(16)", room.unit(16), 100);
-        Check.due("the tape stays when the card is refused", room.end(20), true);
+    }
+
+    private static void refusedCardEmptiesTheTape() {
+        UnitRoom room = new UnitRoom();
+        for (int k = 1; k <= 100; k++) {
+            room.card();
+        }
+        for (int k = 0; k < 20; k++) {
+            room.feed(ABCD, ABCD, ABCD, ABCD, ABCD);
+        }
+        Check.due("card 101", room.card(), UnitRoom.NONE);
+        Check.due("end(1) after a refused card", room.end(1), false);
+        Check.due("end(0) after a refused card", room.end(0), true);
+        Check.due("card of the empty tape", room.card(), UnitRoom.NONE);
+        Check.due("feed", room.feed(0x5A5A5A5A, BLANKS, BLANKS, BLANKS, BLANKS), true);
+        Check.due("end(21)", room.end(21), false);
+        Check.due("end(20)", room.end(20), true);
+        room.operate(16, Check.IN, 0, 0);
+        Check.due("card for the one read", room.card(), 100);
+        for (int k = 0; k < 100; k++) {
+            Check.due("IN " + k, room.operate(16, Check.IN, 0, 0), 0);
+        }
+        Check.due("IN without cards", room.operate(16, Check.IN, 0, 0), 6);
+        room.pass(1000);
+        Check.due("word(0) of the last card", room.word(0), Check.packed(29, 29, 29, 29, 0));
+        Check.due("word(4) of the last card", room.word(4), 0);
     }
 
     private static void readCardsMakeRoom() {

@@ -103,11 +103,12 @@ final class Model {
     }
 
     long card() {
+        String card = (tape + " ".repeat(80)).substring(0, 80);
+        tape = "";
         if (cards.size() == 100) {
             return -1;
         }
-        cards.add((tape + " ".repeat(80)).substring(0, 80));
-        tape = "";
+        cards.add(card);
         return cards.size();
     }
 
