@@ -3,12 +3,8 @@ public final class BlockTest {
     public static void main(String[] args) {
         tapeGoesOn();
         tapeMoves();
-        tapeWritesItsLastBlock();
         tapesAreApart();
         diskTakesItsBlock();
-        signsAreKept();
-        blockOutside();
-        standsNowhere();
         Check.finish();
     }
 
@@ -49,17 +45,6 @@ public final class BlockTest {
         Check.due("unit(1)", room.unit(1), 0);
     }
 
-    private static void tapeWritesItsLastBlock() {
-        UnitRoom room = new UnitRoom();
-        room.fill(0, 100, 4);
-        room.operate(3, Check.IOC, 63, 0);
-        Check.due("OUT at 63", room.operate(3, Check.OUT, 0, 0), 0);
-        Check.due("unit(3)", room.unit(3), 64);
-        Check.due("OUT at 64", room.operate(3, Check.OUT, 0, 0), 6);
-        Check.due("IN at 64", room.operate(3, Check.IN, 0, 0), 6);
-        Check.due("block 63", room.block(3, 63, 0), 4);
-    }
-
     private static void tapesAreApart() {
         UnitRoom room = new UnitRoom();
         int[] units = {0, 1, 2, 3, 8, 9};
@@ -89,53 +74,6 @@ public final class BlockTest {
             room.operate(u, Check.OUT, 0, 63);
             Check.due("block written again", room.block(u, 63, 50), 1);
             Check.due("block written again", room.block(u, 63, 0), 0);
-        }
-    }
-
-    private static void signsAreKept() {
-        UnitRoom room = new UnitRoom();
-        room.set(0, 0, true);
-        room.set(1, -77, false);
-        room.operate(9, Check.OUT, 0, 1);
-        Check.due("block -0", room.block(9, 1, 0), Check.MINUS_ZERO);
-        Check.due("block -77", room.block(9, 1, 1), -77);
-        room.operate(9, Check.IN, 200, 1);
-        room.pass(400);
-        Check.due("word -0", room.word(200), Check.MINUS_ZERO);
-        Check.due("word -77", room.word(201), -77);
-    }
-
-    private static void blockOutside() {
-        UnitRoom room = new UnitRoom();
-        int[] units = {0, 1, 2, 3, 8, 9};
-        for (int u : units) {
-            Check.due("block -1", room.block(u, -1, 0), Check.NO_WORD);
-            Check.due("block 64", room.block(u, 64, 0), Check.NO_WORD);
-            Check.due("word -1", room.block(u, 0, -1), Check.NO_WORD);
-            Check.due("word 100", room.block(u, 0, 100), Check.NO_WORD);
-            Check.due("least", room.block(u, Integer.MIN_VALUE, 0), Check.NO_WORD);
-            Check.due("greatest", room.block(u, 0, Integer.MAX_VALUE), Check.NO_WORD);
-            room.operate(u, Check.OUT, 0, 0);
-            Check.due("word -1", room.block(u, 0, -1), Check.NO_WORD);
-            Check.due("word 100", room.block(u, 0, 100), Check.NO_WORD);
-            Check.due("last", room.block(u, 63, 99), 0);
-        }
-        for (int u : Check.ODD_UNITS) {
-            Check.due("block of " + u, room.block(u, 0, 0), Check.NO_WORD);
-        }
-        for (int u = 16; u <= 19; u++) {
-            Check.due("block of " + u, room.block(u, 0, 0), Check.NO_WORD);
-        }
-    }
-
-    private static void standsNowhere() {
-        UnitRoom room = new UnitRoom();
-        for (int u : Check.DISKS) {
-            room.operate(u, Check.OUT, 0, 5);
-            Check.due("unit of a disk", room.unit(u), UnitRoom.NONE);
-        }
-        for (int u : Check.ODD_UNITS) {
-            Check.due("unit(" + u + ")", room.unit(u), UnitRoom.NONE);
         }
     }
 }

@@ -14,15 +14,25 @@ final class Check {
         Integer.MIN_VALUE, -1, 4, 5, 6, 7, 10, 11, 12, 13, 14, 15, 20, 21, 100, Integer.MAX_VALUE
     };
 
+    /** The greatest and the least int: arguments at which sums wrap around. */
+    static final int GREATEST = Integer.MAX_VALUE;
+    static final int LEAST = Integer.MIN_VALUE;
+
     private static int wrong = 0;
+    private static String sentence = "";
 
     private Check() {
+    }
+
+    /** The words of the document that the calls from here on hold to; a wrong answer tells them. */
+    static void sentence(String words) {
+        sentence = words + ": ";
     }
 
     static void due(String call, long got, long want) {
         if (got != want) {
             wrong++;
-            System.out.println(call + " answered " + got + ", due is " + want);
+            System.out.println(sentence + call + " answered " + got + ", due is " + want);
         }
     }
 
@@ -33,7 +43,7 @@ final class Check {
     static void due(String call, String got, String want) {
         if (!got.equals(want)) {
             wrong++;
-            System.out.println(call + " answered [" + got + "], due is [" + want + "]");
+            System.out.println(sentence + call + " answered [" + got + "], due is [" + want + "]");
         }
     }
 

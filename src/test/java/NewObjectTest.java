@@ -1,23 +1,12 @@
-/** Promise 1. */
+/** Promise 1, and what the terms say of the beginning: a method for each sentence. */
 public final class NewObjectTest {
+    private static final int[] STORES = {0, 1, 2, 3, 8, 9};
+
     public static void main(String[] args) {
-        UnitRoom room = new UnitRoom();
         memoryIsZero();
-        for (int u = -2; u < 24; u++) {
-            Check.due("isBusy(" + u + ")", room.isBusy(u), false);
-        }
-        for (int u : Check.TAPES) {
-            Check.due("unit(" + u + ")", room.unit(u), 0);
-        }
-        for (int u : Check.WRITERS) {
-            Check.due("unit(" + u + ")", room.unit(u), 0);
-            Check.due("letter", room.letter(u, 0, 0), UnitRoom.NONE);
-        }
-        Check.due("unit(16)", room.unit(16), 0);
-        Check.due("IN without cards", room.operate(16, Check.IN, 0, 0), 6);
-        Check.due("end(1)", room.end(1), false);
-        Check.due("end(0)", room.end(0), true);
-        Check.due("pass(0)", room.pass(0), 0);
+        timeIsZero();
+        unitsAreFree();
+        nothingIsWritten();
         blocksAreZero();
         objectsAreApart();
         Check.due("NONE", UnitRoom.NONE, -1);
@@ -26,37 +15,82 @@ public final class NewObjectTest {
 
     /** A fresh object for each few calls: nothing is promised after the 512th. */
     private static void memoryIsZero() {
-        UnitRoom room = new UnitRoom();
-        for (int address = 0; address < 4000; address++) {
-            room = address % 500 == 0 ? new UnitRoom() : room;
-            Check.due("word(" + address + ")", room.word(address), 0);
-        }
-    }
-
-    private static void blocksAreZero() {
-        int[] units = {0, 1, 2, 3, 8, 9};
-        for (int u : units) {
-            for (int b = 0; b < 64; b++) {
-                UnitRoom room = new UnitRoom();
-                for (int i = 0; i < 100; i++) {
-                    Check.due("block(" + u + ", " + b + ", " + i + ")", room.block(u, b, i), 0);
-                }
+        Check.sentence("Promise 1, memory +0");
+        for (int from = 0; from < 4000; from += 500) {
+            Room room = new Room();
+            for (int address = from; address < from + 500; address++) {
+                room.word(address, 0);
             }
         }
     }
 
+    private static void timeIsZero() {
+        Check.sentence("Promise 1, time 0");
+        Room room = new Room();
+        room.pass(0, 0);
+        room = new Room();
+        room.pass(1, 1);
+    }
+
+    private static void unitsAreFree() {
+        Check.sentence("Promise 1, units free");
+        Room room = new Room();
+        for (int u = -2; u < 24; u++) {
+            room.isBusy(u, false);
+        }
+        room.card(1);
+        int[] units = {0, 1, 2, 3, 8, 9, 16, 17, 18, 19};
+        for (int u : units) {
+            room.operate(u, u == 16 ? Check.IN : Check.OUT, 0, 0, 0);
+            room.pass(0, 0);
+        }
+    }
+
+    private static void nothingIsWritten() {
+        Check.sentence("Promise 1, a new object has no lines, and its tapes stand at 0");
+        Room room = new Room();
+        for (int u : Check.TAPES) {
+            room.unit(u, 0);
+        }
+        for (int u : Check.WRITERS) {
+            room.unit(u, 0);
+            room.letter(u, 0, 0, UnitRoom.NONE);
+        }
+    }
+
+    private static void blocksAreZero() {
+        Check.sentence("Terms, blocks of 100 words, 64 each, all +0 at first");
+        for (int u : STORES) {
+            for (int b = 0; b < 64; b++) {
+                Room room = new Room();
+                for (int i = 0; i < 100; i++) {
+                    room.block(u, b, i, 0);
+                }
+            }
+            Room room = new Room();
+            room.fill(0, 100, 1, true);
+            room.operate(u, Check.IN, 0, 0, 0);
+            room.goOn(500);
+            room.word(0, 0);
+            room.word(99, 0);
+        }
+    }
+
     private static void objectsAreApart() {
-        UnitRoom one = new UnitRoom();
-        UnitRoom other = new UnitRoom();
-        one.set(0, 5, false);
-        one.operate(0, Check.OUT, 0, 0);
-        one.operate(18, Check.OUT, 0, 0);
-        one.feed(1, 2, 3, 4, 5);
-        one.pass(3);
-        Check.due("word of another", other.word(0), 0);
-        Check.due("block of another", other.block(0, 0, 0), 0);
-        Check.due("unit of another", other.unit(18), 0);
-        Check.due("end of another", other.end(1), false);
-        Check.due("pass of another", other.pass(0), 0);
+        Check.sentence("Promise 1, what one object does another does not see");
+        Room one = new Room();
+        Room other = new Room();
+        one.set(0, 5);
+        one.operate(0, Check.OUT, 0, 0, 0);
+        one.operate(18, Check.OUT, 0, 0, 0);
+        one.feed(1, true);
+        one.pass(3, 3);
+        other.word(0, 0);
+        other.block(0, 0, 0, 0);
+        other.unit(0, 0);
+        other.unit(18, 0);
+        other.isBusy(18, false);
+        other.end(1, false);
+        other.pass(0, 0);
     }
 }
